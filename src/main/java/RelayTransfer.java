@@ -346,7 +346,7 @@ public final class RelayTransfer {
     }
 
     private static int degreeOf(int packet) {
-        return Integer.bitCount(setIn(packet));
+        return Integer.bitCount(packet >> VALUE_BITS);
     }
 
     private static boolean hasBlock(int packet, int block) {
@@ -382,10 +382,10 @@ public final class RelayTransfer {
         }
 
         int removeAt(int k) {
-            int packet = at(k);
-            if (packet == NO_PACKET) {
+            if (k < 0 || k >= size || k >= packets.length) {
                 return NO_PACKET;
             }
+            int packet = packets[k];
             for (int i = k + 1; i < size && i < packets.length; i++) {
                 packets[i - 1] = packets[i];
             }
@@ -457,7 +457,8 @@ public final class RelayTransfer {
         boolean take(int packet) {
             int rest = packet;
             for (int top = rows.length - 1; top >= 0; top--) {
-                if (!hasBlock(rest, top)) {
+                int bit = 1 << (VALUE_BITS + top);
+                if ((rest & bit) == 0) {
                     continue;
                 }
                 if (rows[top] == NO_PACKET) {
@@ -474,7 +475,8 @@ public final class RelayTransfer {
         int reduce(int packet) {
             int rest = packet;
             for (int top = rows.length - 1; top >= 0; top--) {
-                if (hasBlock(rest, top)) {
+                int bit = 1 << (VALUE_BITS + top);
+                if ((rest & bit) != 0) {
                     rest ^= rows[top];
                 }
             }
@@ -510,18 +512,13 @@ public final class RelayTransfer {
             return block >= 0 && block < singles.length && singles[block] != NO_PACKET;
         }
 
-        void add(int block, int value, int time) {
-            if (block >= 0 && block < singles.length && block < times.length && !has(block)) {
-                singles[block] = packetWith(block, value);
-                times[block] = time;
-                count++;
-            }
-        }
-
-        void addSingle(int single, int time) {
-            for (int b = 0; b < singles.length; b++) {
-                if (hasBlock(single, b)) {
-                    add(b, valueIn(single), time);
+        /** Takes a packet of one block; one that is found already stays as it is. */
+        void add(int single, int time) {
+            for (int b = 0; b < singles.length && b < times.length; b++) {
+                if (hasBlock(single, b) && singles[b] == NO_PACKET) {
+                    singles[b] = single;
+                    times[b] = time;
+                    count++;
                 }
             }
         }
@@ -589,7 +586,7 @@ public final class RelayTransfer {
             }
             // Each round finds another block, so there are no more rounds than blocks.
             for (int round = 0; round < MOST_BLOCKS && setIn(rest) != 0; round++) {
-                peeled.addSingle(rest, time);
+                peeled.add(rest, time);
                 waiting.takeOut(rest);
                 rest = waiting.removeFirstSingle();
             }
@@ -598,8 +595,8 @@ public final class RelayTransfer {
         private void solve(int time) {
             for (int b = 0; b < MOST_BLOCKS; b++) {
                 int rest = span.reduce(packetWith(b, 0));
-                if (setIn(rest) == 0 && !solved.has(b)) {
-                    solved.add(b, valueIn(rest), time);
+                if (setIn(rest) == 0) {
+                    solved.add(packetWith(b, valueIn(rest)), time);
                 }
             }
         }

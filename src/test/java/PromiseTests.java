@@ -645,6 +645,7 @@ public final class PromiseTests {
                 x.begin(2, 0);
                 x.set(3, seed);
                 due("forecast(1) for " + ticks, x.forecast(1), ticks <= 300 ? ticks : NONE);
+                due("bestPolicy() for " + ticks, x.bestPolicy(), ticks <= 300 ? 0 : NONE);
             }
         }
         checks.holds("a forecast of 300 and one beyond were met", most && beyond);
@@ -692,6 +693,14 @@ public final class PromiseTests {
         x.inject(3);
         due("bearable(0, 0), all solved", x.bearable(0, 0), 99);
         due("bearable(0, 100), all solved", x.bearable(0, 100), 99);
+        for (int seed = 0; seed < 700; seed++) {
+            x.begin(2, 0);
+            x.set(3, seed);
+            x.inject(1);
+            int drawn = seedAfter(seed, 4) / 65536 % 100;
+            int degreeAndBlock = seedAfter(seed, 2) / 65536 % 2;
+            due("bearable(0, 1) for a drawn loss", x.bearable(0, 1), degreeAndBlock == 1 ? drawn : NONE);
+        }
     }
 
     private void keepAndBack() {
