@@ -99,12 +99,15 @@ public final class FaceTests {
 
     /** What any call throws ends this program, and so fails it. */
     private void anyArguments() {
+        int pairs = 0;
         RelayTransfer x = new RelayTransfer();
         for (int a : ODD) {
             for (int b : ODD) {
-                if (x.told(2) > 100000) {
+                // No object is used for more than 512 calls; a pair takes 26 of them.
+                if (pairs % 19 == 0) {
                     x = new RelayTransfer();
                 }
+                pairs++;
                 change(x, a, b);
                 ask(x, a, b);
             }

@@ -225,18 +225,28 @@ public final class HistoryTests {
     }
 
     private void undoRestoresCountsAndLists() {
-        RelayTransfer x = new RelayTransfer();
-        x.begin(6, 2);
-        x.setLoss(0, 30);
-        x.setLoss(2, 30);
-        String[] present = new String[9];
-        for (int i = 0; i <= 7; i++) {
-            present[i] = Story.present(x);
+        Story start = x -> {
+            x.begin(6, 2);
+            x.setLoss(0, 30);
+            x.setLoss(2, 30);
+        };
+        for (int runs = 0; runs <= 8; runs++) {
+            int undos = 8 - runs;
+            Story ran = start.then(x -> runTimes(x, 8 - undos));
+            Story undone = start.then(x -> runTimes(x, 8)).then(x -> undoTimes(x, undos));
+            same(undos + " undos", Story.presentAndFuture(undone), Story.presentAndFuture(ran));
+        }
+    }
+
+    private static void runTimes(RelayTransfer x, int times) {
+        for (int i = 0; i < times; i++) {
             x.run(3);
         }
-        for (int i = 7; i >= 0; i--) {
-            due("undo()", x.undo(), i);
-            same("three ticks back", Story.present(x), present[i]);
+    }
+
+    private static void undoTimes(RelayTransfer x, int times) {
+        for (int i = 0; i < times; i++) {
+            x.undo();
         }
     }
 

@@ -1,12 +1,14 @@
 import java.util.Random;
 
 /**
- * Long runs of drawn calls, answered by the program and by the model; after each call everything
- * that can be asked is asked of both. The draws have fixed seeds, so each run is the same each time.
+ * Runs of drawn calls, answered by the program and by the model; after each call a few drawn questions
+ * are asked of both, and at the end everything, so that no object is used for more than the 512 calls
+ * for which the document promises anything. The draws have fixed seeds: each run is always the same.
  */
 public final class ModelTests {
-    private static final int RUNS = 260;
-    private static final int CALLS = 120;
+    private static final int RUNS = 1500;
+    private static final int CALLS = 40;
+    private static final int QUESTIONS = 5;
 
     private final Checks checks;
     private final Random random;
@@ -34,8 +36,11 @@ public final class ModelTests {
         }
         for (int i = 0; i < CALLS && !checks.anyWrong(); i++) {
             call();
-            compareAll();
+            for (int q = 0; q < QUESTIONS; q++) {
+                question();
+            }
         }
+        compareAll();
     }
 
     /** Now and then a little beyond the range, rarely far beyond. */
@@ -117,34 +122,61 @@ public final class ModelTests {
         due("novel(" + node + ", " + set + ")", program.novel(node, set), model.novel(node, set));
     }
 
-    private void compareAll() {
-        for (int what = -1; what <= 17; what++) {
-            due("told(" + what + ")", program.told(what), model.told(what));
-        }
-        checks.due(run + ": overhead()", program.overhead(), model.overhead());
-        for (int a = -1; a <= 13; a++) {
-            for (int what = -1; what <= 5; what++) {
-                due("block(" + a + ", " + what + ")", program.block(a, what), model.block(a, what));
-            }
-        }
-        for (int k = -1; k <= 21; k++) {
-            for (int what = -1; what <= 3; what++) {
-                due("waiting(" + k + ", " + what + ")", program.waiting(k, what), model.waiting(k, what));
-            }
-        }
-        for (int node = -1; node <= 5; node++) {
-            compareNode(node);
+    private void question() {
+        int what = within(0, 4);
+        switch (random.nextInt(8)) {
+            case 0, 1 -> told(within(0, 16));
+            case 2 -> block(within(0, model.told(0) - 1), what);
+            case 3 -> waiting(within(0, Math.max(0, model.told(13))), what);
+            case 4 -> node(within(0, model.told(1) + 1), what);
+            case 5 -> packet(within(1, model.told(1) + 1), within(0, 5), what);
+            case 6 -> novel(within(1, model.told(1) + 1), within(1, (1 << model.told(0)) - 1));
+            default -> checks.due(run + ": overhead()", program.overhead(), model.overhead());
         }
     }
 
-    private void compareNode(int node) {
-        for (int what = -1; what <= 3; what++) {
-            due("node(" + node + ", " + what + ")", program.node(node, what), model.node(node, what));
-            for (int k = -1; k <= 12; k++) {
-                due("packet(" + node + ", " + k + ", " + what + ")",
-                    program.packet(node, k, what), model.packet(node, k, what));
+    private void told(int what) {
+        due("told(" + what + ")", program.told(what), model.told(what));
+    }
+
+    private void block(int block, int what) {
+        due("block(" + block + ", " + what + ")", program.block(block, what), model.block(block, what));
+    }
+
+    private void waiting(int k, int what) {
+        due("waiting(" + k + ", " + what + ")", program.waiting(k, what), model.waiting(k, what));
+    }
+
+    private void node(int node, int what) {
+        due("node(" + node + ", " + what + ")", program.node(node, what), model.node(node, what));
+    }
+
+    private void packet(int node, int k, int what) {
+        due("packet(" + node + ", " + k + ", " + what + ")", program.packet(node, k, what), model.packet(node, k, what));
+    }
+
+    private void compareAll() {
+        for (int what = 0; what <= 16; what++) {
+            told(what);
+        }
+        checks.due(run + ": overhead()", program.overhead(), model.overhead());
+        for (int b = 0; b < model.told(0); b++) {
+            for (int what = 0; what <= 4; what++) {
+                block(b, what);
             }
         }
-        novel(node, 1 + random.nextInt(5));
+        for (int k = 0; k <= model.told(13); k++) {
+            waiting(k, 0);
+            waiting(k, 1);
+        }
+        for (int node = 0; node <= model.told(1) + 1; node++) {
+            for (int what = 0; what <= 2; what++) {
+                node(node, what);
+            }
+            for (int k = 0; k <= model.node(node, 0) && node > 0; k++) {
+                packet(node, k, 0);
+                packet(node, k, 1);
+            }
+        }
     }
 }

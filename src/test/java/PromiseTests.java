@@ -620,35 +620,6 @@ public final class PromiseTests {
         due("forecast(1) of nothing but 3", x.forecast(1), NONE);
         x.inject(1);
         due("forecast(0) of 3 after 1", x.forecast(0), 1);
-        dueForecastAtItsEnd();
-    }
-
-    /** Forecasts agree with a run of as many ticks, also where they are 300 or a little beyond. */
-    private void dueForecastAtItsEnd() {
-        boolean most = false, beyond = false;
-        for (int seed = 0; seed < 20000 && !(most && beyond); seed++) {
-            RelayTransfer x = new RelayTransfer();
-            x.begin(2, 0);
-            x.setLoss(0, 99);
-            x.set(3, seed);
-            int ticks = 0;
-            while (x.told(14) < 2 && ticks < 302) {
-                x.run(1);
-                ticks++;
-            }
-            most |= ticks == 300;
-            beyond |= ticks == 301;
-            if (ticks >= 299) {
-                for (int i = 0; i < 4; i++) {
-                    x.run(100);
-                }
-                x.begin(2, 0);
-                x.set(3, seed);
-                due("forecast(1) for " + ticks, x.forecast(1), ticks <= 300 ? ticks : NONE);
-                due("bestPolicy() for " + ticks, x.bestPolicy(), ticks <= 300 ? 0 : NONE);
-            }
-        }
-        checks.holds("a forecast of 300 and one beyond were met", most && beyond);
     }
 
     private void bestPolicy() {
@@ -694,7 +665,7 @@ public final class PromiseTests {
         due("bearable(0, 0), all solved", x.bearable(0, 0), 99);
         due("bearable(0, 100), all solved", x.bearable(0, 100), 99);
         for (int seed = 0; seed < 700; seed++) {
-            x.begin(2, 0);
+            x = withSingles(2, 0);
             x.set(3, seed);
             x.inject(1);
             int drawn = seedAfter(seed, 4) / 65536 % 100;

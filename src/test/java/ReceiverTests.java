@@ -47,19 +47,11 @@ public final class ReceiverTests {
         return x;
     }
 
-    private static int valueOf(int set) {
-        int value = 0;
-        for (int b = 0; b < 12; b++) {
-            value ^= (set >> b & 1) * (10 * b + 7);
-        }
-        return value;
-    }
-
     private void dueWaiting(String when, RelayTransfer x, int... sets) {
         due(when + ": waiting", x.told(13), sets.length);
         for (int k = 0; k < sets.length; k++) {
             due(when + ": waiting(" + k + ", 0)", x.waiting(k, 0), sets[k]);
-            due(when + ": waiting(" + k + ", 1)", x.waiting(k, 1), valueOf(sets[k]));
+            due(when + ": waiting(" + k + ", 1)", x.waiting(k, 1), Story.firstValueOf(sets[k]));
             due(when + ": waiting(" + k + ", 2)", x.waiting(k, 2), Integer.bitCount(sets[k]));
         }
         for (int what = 0; what <= 2; what++) {
@@ -112,8 +104,11 @@ public final class ReceiverTests {
         RelayTransfer x = with(5, 1, 4, 31);
         dueKnown("two taken out", x, 5);
         dueWaiting("two taken out", x, 26);
+        due("kept as it arrived", x.packet(1, 2, 0), 31);
+        due("its value", x.packet(1, 2, 1), Story.firstValueOf(31));
         x.inject(3 + 8);
         dueWaiting("to the end", x, 26, 10);
+        due("kept as it arrived", x.packet(1, 3, 0), 11);
         x = with(4, 15);
         dueWaiting("nothing known", x, 15);
         dueKnown("nothing known", x, 0);
@@ -331,7 +326,11 @@ public final class ReceiverTests {
         due("not novel", x.told(10), 1);
         x.inject(2);
         dueSolved("all", x, 31);
-        x = with(3, 3, 6, 5);
+        x = with(3);
+        due("inject(3)", x.inject(3), 1);
+        due("inject(6)", x.inject(6), 1);
+        due("inject(5), the sum of both", x.inject(5), 0);
+        dueWaiting("novel or not, all wait", x, 3, 6, 5);
         dueSolved("3, 6, 5 span no block", x, 0);
         x.inject(7);
         dueSolved("with 7 all", x, 7);
@@ -422,7 +421,7 @@ public final class ReceiverTests {
         RelayTransfer x = with(4, 1, 3, 2, 7, 15);
         for (int k = 0; k < 4; k++) {
             due("packet(1, " + k + ", 0)", x.packet(1, k, 0), sets[k]);
-            due("packet(1, " + k + ", 1)", x.packet(1, k, 1), valueOf(sets[k]));
+            due("packet(1, " + k + ", 1)", x.packet(1, k, 1), Story.firstValueOf(sets[k]));
             due("packet(1, " + k + ", 2)", x.packet(1, k, 2), k + 1);
         }
         for (int what = 0; what <= 2; what++) {

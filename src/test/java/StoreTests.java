@@ -22,6 +22,7 @@ public final class StoreTests {
         tests.frontGoesToTheEnd();
         tests.frontGoesToTheEndThoughLost();
         tests.chosenOnesAreCombined();
+        tests.whateverIsLeftIsSent();
         tests.roomBecomesSmaller();
         tests.roomBecomesSmallerEverywhere();
         tests.roomBecomesGreater();
@@ -240,6 +241,30 @@ public final class StoreTests {
             due(name + "value", x.packet(2, x.told(11) - 1, 1), value[i]);
             due(name + "all drawn", x.told(6), Wishes.seedAfter(seed, 13 + 9));
             dueStore(name + "the list stays, the front goes for 8", x, 1, "5 8");
+        }
+    }
+
+    /** Only of the empty set nothing comes: each single block does, and all blocks do. */
+    private void whateverIsLeftIsSent() {
+        int[][] sets = {{3, 2, 1}, {3, 1, 2}, {7, 3, 4}, {12, 4, 8}, {12, 3, 15}, {14, 15, 1}, {8, 9, 1}};
+        for (int[] s : sets) {
+            Wishes wishes = new Wishes().weights(WEIGHTS).source(4, s[0]).any(1).source(4, s[1]).any(1).number(2, 1)
+                .any(1).any(6).number(2, 1).number(2, 1).any(1);
+            RelayTransfer x = prepared(4, wishes);
+            x.set(2, 1);
+            x.run(3);
+            dueStore(s[0] + " alone, then with " + s[1], x, 2, s[0] + " " + s[2]);
+            due("value", x.packet(2, 1, 1), Story.firstValueOf(s[2]));
+            due("each tick but the first brought one", x.told(9), 2);
+        }
+        for (int block = 0; block < 4; block++) {
+            for (int draw = 0; draw <= 1; draw++) {
+                Wishes wishes = new Wishes().weights(WEIGHTS).source(4, 1 << block).any(1).any(6).number(2, draw);
+                RelayTransfer x = prepared(4, wishes);
+                x.set(2, 1);
+                x.run(2);
+                dueStore("a store of one packet, draw " + draw, x, 2, "" + (1 << block));
+            }
         }
     }
 

@@ -49,6 +49,15 @@ interface Story {
         return text.append(')').toString();
     }
 
+    /** The value of a packet while the blocks have their first values. */
+    static int firstValueOf(int set) {
+        int value = 0;
+        for (int b = 0; b < 12; b++) {
+            value ^= (set >> b & 1) * (10 * b + 7);
+        }
+        return value;
+    }
+
     /** The present and what would come of it: weights, seed and losses show here too. */
     static String presentAndFuture(Story story) {
         StringBuilder text = new StringBuilder(present(story.end()));
